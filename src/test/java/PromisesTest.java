@@ -38,6 +38,8 @@ public final class PromisesTest {
             begin 2 = 4
             count 1 = 0
             block 1 1 0 0 = -1
+            put 1 1 0 = 1
+            stack 1 1 1 = 0
             begin 6 = 36
             count 0 = 6
             stack 5 5 0 = 0
@@ -563,6 +565,22 @@ public final class PromisesTest {
             hour 3 = 7
             stack 3 1 2 = 1
             stack 4 0 2 = 0
+            cutOff 3 = 2
+            ifHour 2 = 1
+            ifHour 3 = 1
+            ifHour 4 = 1
+            cutOff 2 = 1
+            ifHour 1 = 1
+            ifHour 2 = 0
+            ifHour 3 = 0
+            ifHour 4 = 1
+            cutOff 1 = 1
+            ifHour 0 = 1
+            ifHour 1 = 0
+            ifHour 4 = 0
+            ifHour 5 = 1
+            ifHour 6 = 1
+            ifHour 7 = 1
             """);
     }
 
@@ -608,6 +626,12 @@ public final class PromisesTest {
             block 0 0 0 4 = 1
             put 1 0 1 = 3
             block 0 0 0 1 = 1
+            put 0 1 1 = 1
+            block 0 0 0 1 = 1
+            block 0 0 0 2 = 0
+            block 0 0 0 3 = 0
+            block 0 0 0 4 = 1
+            stack 0 0 3 = 1
             """);
     }
 
