@@ -45,7 +45,7 @@ public final class SlantYard {
     private static final int END = 6;
 
     /** Two to the 52nd: how finely a double's last places tell a number from 1 to 2. */
-    private static final double FRACTION_STEPS = 4503599627370496.0;
+    private static final long FRACTION_STEPS = 4503599627370496L;
     private static final int FRACTION_BITS = 52;
     private static final long EXPONENT_OF_ONE = 1023L;
 
@@ -557,7 +557,7 @@ public final class SlantYard {
             rest = rest * 2.0;
             exponent--;
         }
-        return (exponent << FRACTION_BITS) + (long) ((rest - 1.0) * FRACTION_STEPS);
+        return (exponent << FRACTION_BITS) + (long) ((rest - 1.0) * (double) FRACTION_STEPS);
     }
 
     // ---- rows and numbers

@@ -3,8 +3,11 @@ import java.util.Map;
 
 /** Long runs of arbitrary calls, right and wrong ones, each compared with the plain model. */
 public final class ModelTest {
-    private static final int RUNS = 160;
+    private static final int RUNS = 400;
+    /** No object is asked more often than the document promises answers. */
     private static final int CALLS = 512;
+    /** What one step of a run may take of these. */
+    private static final int CALLS_OF_STEP = 90;
 
     /** How a run picks its calls: what it mostly does, and how often an argument lies outside. */
     private static final int[] KINDS = {0, 1, 2, 3};
@@ -36,8 +39,20 @@ public final class ModelTest {
     private SlantYard yard;
     private PlainYard plain;
     private String told;
+    private int made;
+
+    private void begin(String title) {
+        yard = new SlantYard();
+        plain = new PlainYard();
+        told = title;
+        made = 0;
+    }
 
     private void compare(String name, Checks.Call want, Checks.Call got) {
+        made++;
+        if (made > CALLS) {
+            throw new IllegalStateException("too many calls of one object: " + told);
+        }
         String due = Checks.told(want);
         checks.same(told + " " + name, due, Checks.told(got));
     }
@@ -86,7 +101,7 @@ public final class ModelTest {
         if (below(8) == 0) {
             compare("clearBuffer", () -> plain.clearBuffer(), () -> yard.clearBuffer());
         }
-        int length = below(4) == 0 ? below(70) : 4 + below(16);
+        int length = below(4) == 0 ? 1 + below(69) : 4 + below(16);
         String order = "";
         while (order.length() < length) {
             order += (order.isEmpty() ? "" : ";") + below(size) + below(size);
@@ -164,31 +179,30 @@ public final class ModelTest {
         }
     }
 
-    private void everyTriangle() {
-        for (int i = -9; i <= 6; i++) {
-            for (int j = -9; j <= 6; j++) {
-                for (int t = 0; t <= 1; t++) {
-                    for (int what = 0; what <= 4; what++) {
-                        int a = i;
-                        int b = j;
-                        int c = t;
-                        int d = what;
-                        compare("picture " + i + " " + j + " " + t + " " + what,
-                            () -> plain.picture(a, b, c, d), () -> yard.picture(a, b, c, d));
-                    }
-                }
+    /** As many triangles as there are calls left, at arbitrary places one behind the other. */
+    private void triangles() {
+        int from = below(512);
+        for (int k = 0; k < 512 && made + 5 <= CALLS; k++) {
+            int number = (from + k * 37) % 512;
+            int i = number / 32 - 9;
+            int j = number / 2 % 16 - 9;
+            int t = number % 2;
+            for (int what = 0; what <= 4; what++) {
+                int each = what;
+                compare("picture " + i + " " + j + " " + t + " " + what,
+                    () -> plain.picture(i, j, t, each), () -> yard.picture(i, j, t, each));
             }
         }
     }
 
     private void run(int number) {
-        yard = new SlantYard();
-        plain = new PlainYard();
+        begin("run " + number);
         int kind = KINDS[number % KINDS.length];
         int lastSize = 4;
-        for (int call = 0; call < CALLS; call++) {
-            told = "run " + number + " call " + call;
-            if (kind == 3 && call % 25 == 0) {
+        int most = number % 20 == 0 ? CALLS / 2 : CALLS;
+        for (int step = 0; made + CALLS_OF_STEP <= most; step++) {
+            told = "run " + number + " step " + step;
+            if (kind == 3 && step % 25 == 0) {
                 text(lastSize);
             } else if (below(3) == 0 && kind != 2) {
                 look(below(12), lastSize);
@@ -196,38 +210,43 @@ public final class ModelTest {
                 change(kind == 0 ? below(14) : below(16) < 9 ? below(6) : 6 + below(8), lastSize);
             }
             lastSize = plain.count(0);
-            if (call % 16 == 0) {
+            if (step % 16 == 0) {
                 compare("digest", () -> plain.digest(), () -> yard.digest());
             }
         }
         if (number % 20 == 0) {
-            everyTriangle();
+            triangles();
         }
     }
 
     /** Yards that are full or nearly so, which runs of single calls seldom reach. */
     private void fullYards() {
         for (int size = 2; size <= 6; size++) {
-            yard = new SlantYard();
-            plain = new PlainYard();
-            told = "full yard of " + size;
-            int columns = size;
-            compare("begin", () -> plain.begin(columns), () -> yard.begin(columns));
-            for (int square = 0; square < size * size; square++) {
-                int x = square % size;
-                int y = square / size;
-                for (int k = 0; k < 8; k++) {
-                    int colour = below(4);
-                    compare("put", () -> plain.put(x, y, colour), () -> yard.put(x, y, colour));
-                }
-            }
+            begin("full yard of " + size);
+            fill(size);
             compare("digest", () -> plain.digest(), () -> yard.digest());
             for (int k = 0; k < 40; k++) {
                 change(6, size);
                 change(6, size);
                 compare("digest", () -> plain.digest(), () -> yard.digest());
             }
-            everyTriangle();
+            for (int part = 0; part < 10; part++) {
+                begin("full yard of " + size + ", its triangles");
+                fill(size);
+                triangles();
+            }
+        }
+    }
+
+    private void fill(int size) {
+        compare("begin", () -> plain.begin(size), () -> yard.begin(size));
+        for (int square = 0; square < size * size; square++) {
+            int x = square % size;
+            int y = square / size;
+            for (int k = 0; k < 8; k++) {
+                int colour = below(4);
+                compare("put", () -> plain.put(x, y, colour), () -> yard.put(x, y, colour));
+            }
         }
     }
 

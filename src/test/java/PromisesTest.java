@@ -341,12 +341,11 @@ public final class PromisesTest {
     }
 
     private void incomplete(String text) {
-        SlantYard yard = new SlantYard();
-        script.go("13 build of " + text, yard, "put 0 0 1 = 1");
+        Run run = script.run("13 build of " + text, "put 0 0 1 = 1");
         if (!text.isEmpty()) {
-            script.go("13 build of " + text, yard, "type " + text + " = " + text.length());
+            script.go("13 build of " + text, run, "type " + text + " = " + text.length());
         }
-        script.go("13 build of " + text, yard, "build = IAE\nbuild = IAE\ncount 1 = 1\ncount 12 = 1\n"
+        script.go("13 build of " + text, run, "build = IAE\nbuild = IAE\ncount 1 = 1\ncount 12 = 1\n"
             + "clearBuffer = " + text.length());
     }
 

@@ -2,7 +2,9 @@ import java.lang.management.ManagementFactory;
 
 /** No look and no change makes an object or an array; a new object's rows are small. */
 public final class RoomTest {
-    private static final int CALLS = 512;
+    private static final int YARDS = 40;
+    /** So few that no object gets more calls than the document promises answers for. */
+    private static final int ROUNDS = 12;
     /** What the measuring itself may take up. */
     private static final long SLACK = 20000;
     private static final long MOST_FOR_NEW = 40000;
@@ -51,13 +53,16 @@ public final class RoomTest {
         checks.due("bytes of a new object are few: " + ofNew, true, () -> ofNew < MOST_FOR_NEW);
         sum += fresh.digest();
 
-        SlantYard yard = filled();
+        SlantYard[] yards = new SlantYard[YARDS];
+        for (int k = 0; k < YARDS; k++) {
+            yards[k] = filled();
+        }
         before = taken();
-        for (int k = 0; k < CALLS; k++) {
-            sum += round(yard, k);
+        for (int k = 0; k < YARDS * ROUNDS; k++) {
+            sum += round(yards[k / ROUNDS], k);
         }
         long ofCalls = taken() - before;
-        checks.due("bytes of " + CALLS + " rounds are few: " + ofCalls, true, () -> ofCalls < SLACK);
+        checks.due("bytes of " + YARDS * ROUNDS + " rounds are few: " + ofCalls, true, () -> ofCalls < SLACK);
         System.out.println("a new object takes " + ofNew + " bytes, the calls " + ofCalls + " (sum " + sum + ")");
         checks.end();
     }

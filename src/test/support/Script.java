@@ -1,11 +1,15 @@
-import java.lang.reflect.InvocationTargetException;
-import java.lang.reflect.Method;
+import java.util.Set;
 
 /**
- * Runs of calls written as texts, a line each: "put 0 0 1 = 1", or "take 0 0 = ISE" for a call that throws. Behind
- * each call that throws it is looked whether the state is as before.
+ * Runs of calls written as texts, a line each: "put 0 0 1 = 1", "take 0 0 = ISE" for a call that throws, or
+ * "turn = ok" for a call that throws nothing, whatever it answers. Each call that throws, and each look, is done once
+ * more on an object with the same calls before; all that this one tells then, its saved states too, must be what it
+ * would have told without the call.
  */
 final class Script {
+    private static final Set<String> LOOKS = Set.of("firstError", "stack", "block", "picture", "elevation", "cut",
+        "count", "ifPut", "ifHour", "brightest", "same", "bestTurn", "seenShare", "digest");
+
     private final Checks checks;
 
     Script(Checks checks) {
@@ -13,30 +17,34 @@ final class Script {
     }
 
     /** Makes a new object and does all calls of the text on it. */
-    SlantYard run(String title, String text) {
-        SlantYard yard = new SlantYard();
-        go(title, yard, text);
-        return yard;
+    Run run(String title, String text) {
+        Run run = new Run();
+        go(title, run, text);
+        return run;
     }
 
-    void go(String title, SlantYard yard, String text) {
+    void go(String title, Run run, String text) {
         int line = 0;
         for (String row : text.split("\n")) {
             line++;
             if (!row.isBlank()) {
                 String[] sides = row.split(" = ");
-                check(title + ", line " + line + ": " + sides[0].trim(), yard, sides[0].trim(), sides[1].trim());
+                check(title + ", line " + line + ": " + sides[0].trim(), run, sides[0].trim(), sides[1].trim());
             }
         }
     }
 
-    private void check(String what, SlantYard yard, String call, String due) {
-        long before = yard.digest();
-        String got = told(yard, call.split(" "));
+    private void check(String what, Run run, String call, String due) {
         String want = inFull(due);
-        checks.same(what, want, got);
-        if (want.startsWith("throws.")) {
-            checks.same(what + " left the state", String.valueOf(before), String.valueOf(yard.digest()));
+        String got = run.told(call);
+        if (want.equals("ok")) {
+            checks.same(what + " throws", "false", String.valueOf(got.startsWith("throws.")));
+        } else {
+            checks.same(what, want, got);
+        }
+        if (want.startsWith("throws.") || LOOKS.contains(call.split(" ")[0])) {
+            String without = run.again(run.length() - 1).whole();
+            checks.same(what + " left the state", without, run.again(run.length()).whole());
         }
     }
 
@@ -47,34 +55,5 @@ final class Script {
             case "ISE": return "throws.IllegalStateException";
             default: return due;
         }
-    }
-
-    private static String told(SlantYard yard, String[] words) {
-        if (words[0].equals("type")) {
-            return type(yard, words[1]);
-        }
-        Object[] arguments = new Object[words.length - 1];
-        Class<?>[] types = new Class<?>[words.length - 1];
-        for (int k = 0; k < arguments.length; k++) {
-            arguments[k] = Integer.valueOf(words[k + 1]);
-            types[k] = int.class;
-        }
-        try {
-            Method method = SlantYard.class.getMethod(words[0], types);
-            return String.valueOf(method.invoke(yard, arguments));
-        } catch (InvocationTargetException e) {
-            return "throws." + e.getCause().getClass().getSimpleName();
-        } catch (ReflectiveOperationException e) {
-            return "no such call: " + e;
-        }
-    }
-
-    /** Appends all characters of a text, and tells the length then. */
-    private static String type(SlantYard yard, String text) {
-        int length = 0;
-        for (int index = 0; index < text.length(); index++) {
-            length = yard.append(text.charAt(index));
-        }
-        return String.valueOf(length);
     }
 }
