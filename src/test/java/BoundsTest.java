@@ -276,6 +276,30 @@ public final class BoundsTest {
             """);
     }
 
+    /** Squares with x other than y, the mirrored ones with other stacks, so that no column is taken for a row. */
+    private void carryAcross() {
+        script.run("5 x, y, goalX, goalY: the column of the stack, its row, the column of the other one, its row", """
+            type 01+0123;10+33;23+1;32+2222222 = 29
+            build = 4
+            carry 0 1 2 3 = 5
+            stack 0 1 0 = 0
+            stack 1 0 0 = 2
+            stack 3 2 0 = 7
+            block 2 3 0 0 = 1
+            block 2 3 1 0 = 0
+            block 2 3 2 0 = 1
+            block 2 3 3 0 = 2
+            block 2 3 4 0 = 3
+            carry 1 0 3 2 = ISE
+            carry 1 0 0 1 = 2
+            block 0 1 0 0 = 3
+            block 0 1 1 0 = 3
+            carry 3 2 1 0 = 7
+            stack 3 2 0 = 0
+            stack 2 3 0 = 5
+            """);
+    }
+
     private void paint() {
         script.run("6 Throws if the stack is empty", """
             paint 3 3 0 = ISE
@@ -540,6 +564,28 @@ public final class BoundsTest {
             stack 0 0 0 = 4
             stack 0 0 1 = 2
             stack 1 1 0 = 0
+            """);
+    }
+
+    /** Squares with x other than y, the mirrored ones with other stacks, so that no column is taken for a row. */
+    private void buildAcross() {
+        script.run("13 a square, x and y: the orders of one square do not look at the mirrored one", """
+            puts 2 1 7 = 7
+            type 12+012;12-2;12+3 = 16
+            build = 3
+            stack 1 2 0 = 2
+            block 1 2 0 0 = 0
+            block 1 2 1 0 = 3
+            stack 2 1 0 = 7
+            type 12-3 = 4
+            build = 0
+            type 21+01 = 5
+            build = 0
+            type 21-3;12+012301;12+0 = 19
+            build = 2
+            stack 2 1 0 = 4
+            stack 1 2 0 = 8
+            stack 1 2 1 = 1
             """);
     }
 
@@ -1241,6 +1287,7 @@ public final class BoundsTest {
         test.put();
         test.take();
         test.carry();
+        test.carryAcross();
         test.paint();
         test.turn();
         test.cutOff();
@@ -1250,6 +1297,7 @@ public final class BoundsTest {
         test.firstError();
         test.buildSquares();
         test.buildHeights();
+        test.buildAcross();
         test.buildAgain();
         test.buildUndo();
         test.buildIncomplete();
